@@ -34,17 +34,22 @@ final class Check {
         }
     }
 
-    /** The answer, or the exception's class; one that the library threw counts as none of the classes. */
+    /** The answer, or the exception's class; one that code here did not throw counts as none of the classes. */
     static Object outcome(Call call) {
         try {
             return call.answer();
         } catch (RuntimeException e) {
-            StackTraceElement[] trace = e.getStackTrace();
-            if (trace.length > 0 && trace[0].getClassName().startsWith("java.")) {
-                return "thrown by the library: " + e;
-            }
-            return e.getClass();
+            return isThrownHere(e) ? e.getClass() : "thrown by the machine or the library: " + e;
         }
+    }
+
+    private static boolean isThrownHere(RuntimeException e) {
+        StackTraceElement[] trace = e.getStackTrace();
+        if (trace.length == 0) {
+            return false;
+        }
+        String thrower = trace[0].getClassName();
+        return thrower.startsWith("Fixityhall") || thrower.equals("Model");
     }
 
     static void end() {
