@@ -3,6 +3,7 @@ import java.util.ArrayList;
 /** A keeper of digital objects. */
 public final class Fixityhall {
     private static final int SITES = 4;
+    private static final int NO_SITE = -1;
     private static final int MAX_FORMATS = 8;
     private static final int MAX_OBJECTS = 10;
     private static final int MAX_VERSIONS = 10;
@@ -435,7 +436,7 @@ public final class Fixityhall {
 
         boolean isReadable() {
             for (Version part = this; part != null; part = part.base) {
-                if (part.unit.goodValue() == Unit.NO_VALUE) {
+                if (part.unit.goodSite() == NO_SITE) {
                     return false;
                 }
             }
@@ -453,13 +454,12 @@ public final class Fixityhall {
 
     /** A unit and its copies. */
     private static final class Unit {
-        // Damage within the promised number of calls is far from bringing a copy here.
-        static final int NO_VALUE = Integer.MIN_VALUE;
         private static final int DIGESTS = 97;
 
         final int number;
         private final boolean isDifference;
         private final int value;
+        private final int digest;
         private final boolean[] isPlaced = new boolean[SITES];
         private final int[] copies = new int[SITES];
         int wanted;
@@ -470,6 +470,7 @@ public final class Fixityhall {
             this.number = number;
             this.isDifference = isDifference;
             this.value = value;
+            digest = Math.floorMod(value, DIGESTS);
         }
 
         boolean isNeeded() {
@@ -485,11 +486,7 @@ public final class Fixityhall {
         }
 
         boolean isSoundAt(int site) {
-            return hasCopyAt(site) && digestOf(copies[site]) == digestOf(value);
-        }
-
-        private static int digestOf(int number) {
-            return Math.floorMod(number, DIGESTS);
+            return hasCopyAt(site) && Math.floorMod(copies[site], DIGESTS) == digest;
         }
 
         void changeAt(int site, int change) {
@@ -535,17 +532,23 @@ public final class Fixityhall {
             return count;
         }
 
-        /** What most sound copies have, of several the lowest site's; NO_VALUE without a sound copy. */
-        int goodValue() {
-            int good = NO_VALUE;
+        /** The lowest site that has the good value, or NO_SITE if there is no good value. */
+        int goodSite() {
+            int good = NO_SITE;
             int most = 0;
             for (int site = 0; site < SITES; site++) {
                 if (isSoundAt(site) && countOf(copies[site]) > most) {
-                    good = copies[site];
-                    most = countOf(good);
+                    good = site;
+                    most = countOf(copies[site]);
                 }
             }
             return good;
+        }
+
+        /** What most sound copies have, of several the lowest site's; asked for only if there is one. */
+        int goodValue() {
+            int site = goodSite();
+            return hasCopyAt(site) ? copies[site] : 0;
         }
 
         private int countOf(int held) {
@@ -560,19 +563,17 @@ public final class Fixityhall {
 
         /** Answers whether the copy at the site had to be changed. */
         boolean repairAt(int site) {
-            int good = goodValue();
-            if (good == NO_VALUE || !hasCopyAt(site) || copies[site] == good) {
+            int good = goodSite();
+            if (!hasCopyAt(good) || !hasCopyAt(site) || copies[site] == copies[good]) {
                 return false;
             }
-            copies[site] = good;
+            copies[site] = copies[good];
             return true;
         }
     }
 
     /** All units, the sites at which their copies are, and the turn of the audits. */
     private static final class Store {
-        private static final int NO_SITE = -1;
-
         // A unit stands at its number: removed ones stay, as no number is used again.
         private final ArrayList<Unit> units = new ArrayList<Unit>();
         private final boolean[] isClosed = new boolean[SITES];
@@ -615,8 +616,7 @@ public final class Fixityhall {
         }
 
         private int placeGoodCopies(Unit unit) {
-            int good = unit.goodValue();
-            return good == Unit.NO_VALUE ? 0 : placeCopies(unit, good);
+            return unit.goodSite() == NO_SITE ? 0 : placeCopies(unit, unit.goodValue());
         }
 
         private int placeCopies(Unit unit, int value) {
@@ -716,7 +716,7 @@ public final class Fixityhall {
         boolean auditNext() {
             int places = SITES * units.size();
             for (int tried = 0; tried < places; tried++) {
-                lastAudited = lastAudited + 1 < places ? lastAudited + 1 : 0;
+                lastAudited = isWithin(lastAudited, 0, places - 2) ? lastAudited + 1 : 0;
                 Unit unit = units.get(lastAudited / SITES);
                 int site = lastAudited % SITES;
                 if (unit.hasCopyAt(site)) {

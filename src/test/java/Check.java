@@ -8,10 +8,22 @@ final class Check {
     static final Class<?> INDEX = IndexOutOfBoundsException.class;
     static final Class<?> STATE = IllegalStateException.class;
 
+    private static final int MOST_TOLD = 100;
+
     private static int checks = 0;
     private static int wrong = 0;
+    private static String place = "";
 
     private Check() {
+    }
+
+    /** What is checked from here on is told with this name ahead. */
+    static void in(String name) {
+        place = name.isEmpty() ? "" : name + ": ";
+    }
+
+    static int count() {
+        return checks;
     }
 
     static void answers(String what, long due, Call call) {
@@ -30,7 +42,9 @@ final class Check {
         checks++;
         if (!due.equals(got)) {
             wrong++;
-            System.out.println(what + ": " + got + ", due is " + due);
+            if (wrong <= MOST_TOLD) {
+                System.out.println(place + what + ": " + got + ", due is " + due);
+            }
         }
     }
 

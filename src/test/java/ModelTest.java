@@ -1,8 +1,8 @@
 /** Long runs of mixed calls, right and wrong ones, on the class and on the model; both answer the same. */
 public final class ModelTest {
-    private static final int RUNS = 300;
-    private static final int CALLS = 400;
-    private static final int CALLS_BETWEEN_LOOKS = 25;
+    private static final int RUNS = 4000;
+    // The document leaves free what later calls answer.
+    private static final int CALLS = 512;
     private static final int[] CONTENTS = {0, 1, 2, 5, 98, 97, 194, 1000, 1001, 500000, 999998, 999999};
     private static final int[] WRONG = {-1, Integer.MIN_VALUE, Integer.MAX_VALUE, 101, 1000000, -1001, 1001, 10, 8, 4};
 
@@ -25,12 +25,12 @@ public final class ModelTest {
 
     private void play() {
         for (int call = 0; call < CALLS; call++) {
-            anyCall();
-            if (call % CALLS_BETWEEN_LOOKS == 0) {
-                lookAtAll();
+            if (below(5) < 2) {
+                look(below(10));
+            } else {
+                change();
             }
         }
-        lookAtAll();
     }
 
     private int below(int bound) {
@@ -58,7 +58,7 @@ public final class ModelTest {
         Check.same("run " + run + ", " + what, wanted, Check.outcome(got));
     }
 
-    private void anyCall() {
+    private void change() {
         int kind = below(100);
         if (kind < 16) {
             callFormats(below(4));
@@ -117,24 +117,25 @@ public final class ModelTest {
         }
     }
 
-    private void lookAtAll() {
-        same("units", model::units, hall::units);
-        same("lacking", model::lacking, hall::lacking);
-        for (int i = -1; i <= 10; i++) {
-            int a = i;
-            same("versions " + a, () -> model.versions(a), () -> hall.versions(a));
-            for (int j = -1; j <= 10; j++) {
-                int b = j;
-                same("bestWay", () -> model.bestWay(a, b), () -> hall.bestWay(a, b));
-                same("unitOf", () -> model.unitOf(a, b), () -> hall.unitOf(a, b));
-                same("read", () -> model.read(a, b), () -> hall.read(a, b));
-            }
-        }
-        for (int i = -1; i <= 101; i++) {
-            int a = i;
-            same("sites " + a, () -> model.sites(a), () -> hall.sites(a));
-            same("sound " + a, () -> model.sound(a), () -> hall.sound(a));
-            same("atRisk " + a, () -> model.atRisk(a), () -> hall.atRisk(a));
+    private void look(int kind) {
+        int object = upTo(9);
+        int version = upTo(9);
+        int unit = upTo(60);
+        int from = upTo(7);
+        int to = upTo(7);
+        int risk = upTo(run % 2 == 0 ? 100 : 3);
+        switch (kind) {
+            case 0 -> same("units", model::units, hall::units);
+            case 1 -> same("lacking", model::lacking, hall::lacking);
+            case 2 -> same("bestWay " + from + " " + to, () -> model.bestWay(from, to), () -> hall.bestWay(from, to));
+            case 3 -> same("versions " + object, () -> model.versions(object), () -> hall.versions(object));
+            case 4 -> same("unitOf " + object + " " + version,
+                () -> model.unitOf(object, version), () -> hall.unitOf(object, version));
+            case 5 -> same("atRisk " + risk, () -> model.atRisk(risk), () -> hall.atRisk(risk));
+            case 6 -> same("sites " + unit, () -> model.sites(unit), () -> hall.sites(unit));
+            case 7 -> same("sound " + unit, () -> model.sound(unit), () -> hall.sound(unit));
+            default -> same("read " + object + " " + version,
+                () -> model.read(object, version), () -> hall.read(object, version));
         }
     }
 }
