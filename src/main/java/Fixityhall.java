@@ -547,7 +547,11 @@ public final class Fixityhall {
 
         /** What most sound copies have, of several the lowest site's; asked for only if there is one. */
         int goodValue() {
-            int site = goodSite();
+            return heldAt(goodSite());
+        }
+
+        /** What the copy at the site has, or 0 if there is none. */
+        int heldAt(int site) {
             return hasCopyAt(site) ? copies[site] : 0;
         }
 
@@ -616,7 +620,8 @@ public final class Fixityhall {
         }
 
         private int placeGoodCopies(Unit unit) {
-            return unit.goodSite() == NO_SITE ? 0 : placeCopies(unit, unit.goodValue());
+            int good = unit.goodSite();
+            return good == NO_SITE ? 0 : placeCopies(unit, unit.heldAt(good));
         }
 
         private int placeCopies(Unit unit, int value) {

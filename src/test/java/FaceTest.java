@@ -8,10 +8,20 @@ import java.nio.file.Path;
 import java.util.Arrays;
 import java.util.List;
 import java.util.TreeSet;
+import java.util.regex.Matcher;
+import java.util.regex.Pattern;
 
 /** The face is the document's and no wider, and the source keeps to what LANGUAGE.md leaves. */
 public final class FaceTest {
     private static final Path SOURCE = Path.of("src/main/java/Fixityhall.java");
+
+    // Rule 11 of LANGUAGE.md.
+    private static final int MOST_CLASSES = 12;
+    private static final int MOST_FIELDS = 20;
+    private static final int MOST_PARAMETERS = 7;
+
+    private static final Pattern LIBRARY_CALL = Pattern.compile("\\b(?:Math|Integer|Long|Arrays|String|List)\\.\\w+");
+    private static final List<String> LIBRARY_CALLS = List.of("Math.floorMod", "Math.max", "Integer.bitCount");
 
     private static final List<String> FACE = List.of(
         "int addFormat(int) IllegalArgumentException IllegalStateException",
@@ -40,6 +50,7 @@ public final class FaceTest {
         theMethodsAreTheDocuments();
         nothingElseCanBeSeen();
         noPrivateMethodBearsAPublicName();
+        theClassesStaySmall();
         theSourceKeepsToTheLanguage();
         Check.end();
     }
@@ -83,13 +94,34 @@ public final class FaceTest {
         for (String line : FACE) {
             names.add(line.substring(line.indexOf(' ') + 1, line.indexOf('(')));
         }
-        Class<?>[] inside = Fixityhall.class.getDeclaredClasses();
-        Class<?>[] all = Arrays.copyOf(inside, inside.length + 1);
-        all[inside.length] = Fixityhall.class;
-        for (Class<?> one : all) {
+        for (Class<?> one : allClasses()) {
             for (Method method : one.getDeclaredMethods()) {
                 boolean isFace = one == Fixityhall.class && Modifier.isPublic(method.getModifiers());
                 Check.holds(one.getName() + "." + method.getName(), isFace || !names.contains(method.getName()));
+            }
+        }
+    }
+
+    private static Class<?>[] allClasses() {
+        Class<?>[] inside = Fixityhall.class.getDeclaredClasses();
+        Class<?>[] all = Arrays.copyOf(inside, inside.length + 1);
+        all[inside.length] = Fixityhall.class;
+        return all;
+    }
+
+    private static void theClassesStaySmall() {
+        Check.holds("classes", allClasses().length <= MOST_CLASSES);
+        for (Class<?> one : allClasses()) {
+            int fields = 0;
+            for (Field field : one.getDeclaredFields()) {
+                boolean isStatic = Modifier.isStatic(field.getModifiers());
+                fields += isStatic ? 0 : 1;
+                Check.holds(one.getName() + "." + field.getName() + " is final if it is static",
+                    !isStatic || Modifier.isFinal(field.getModifiers()));
+            }
+            Check.holds("fields of " + one.getName(), fields <= MOST_FIELDS);
+            for (Method method : one.getDeclaredMethods()) {
+                Check.holds("parameters of " + method, method.getParameterCount() <= MOST_PARAMETERS);
             }
         }
     }
@@ -104,6 +136,10 @@ public final class FaceTest {
             if (line.startsWith("import ")) {
                 Check.same("import", "import java.util.ArrayList;", line);
             }
+        }
+        Matcher calls = LIBRARY_CALL.matcher(source);
+        while (calls.find()) {
+            Check.holds(calls.group() + " is one of " + LIBRARY_CALLS, LIBRARY_CALLS.contains(calls.group()));
         }
     }
 
